@@ -600,7 +600,6 @@ public final class DockTurns {
             due[trucks] = dueAt;
             room[trucks] = space;
             weight[trucks] = heaviness;
-            firstCarton[trucks] = cartons;
             trucks++;
         }
 

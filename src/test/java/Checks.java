@@ -17,6 +17,10 @@ final class Checks {
         }
     }
 
+    void asDue() {
+        asked++;
+    }
+
     void due(String what, boolean got, boolean want) {
         due(what, got ? 1 : 0, want ? 1 : 0);
     }
