@@ -23,6 +23,7 @@ public final class EdgeActsTest {
         fixedAheadOfNow();
         fixedInTheLastMinute();
         everyPlaceOfARow();
+        othersMakeRoom();
         asManyAsThereAreOthers();
         behindTheFixedOnes();
         fixedOfBothRows();
@@ -90,6 +91,29 @@ public final class EdgeActsTest {
             checks.dueRow("another ROW, " + k, y, 1, other[k]);
             checks.dueRow("that it left", y, 0, 0, 4);
         }
+    }
+
+    /** Whatever their numbers are, those behind it in the ROW that it leaves come up, those behind its place go back. */
+    private static void othersMakeRoom() {
+        DockTurns x = Checks.told(FIVE);
+        x.swap(0, 4);
+        x.swap(1, 3);
+        checks.dueRow("the greater numbers first", x, 0, 4, 2, 0);
+        checks.dueRow("the greater numbers first", x, 1, 3, 1);
+        x.place(4, 1, 0);
+        checks.dueRow("the others come up", x, 0, 2, 0);
+        checks.dueRow("the others go back", x, 1, 4, 3, 1);
+        x.place(2, 0, 1);
+        checks.dueRow("to the end of its own", x, 0, 0, 2);
+        x.place(2, 0, 0);
+        checks.dueRow("to the beginning of its own", x, 0, 2, 0);
+        x.place(3, 0, 2);
+        checks.dueRow("behind all", x, 0, 2, 0, 3);
+        checks.dueRow("from between", x, 1, 4, 1);
+        x.place(0, 1, 1);
+        checks.dueRow("from between", x, 0, 2, 3);
+        checks.dueRow("between", x, 1, 4, 0, 1);
+        checks.dueRow("of the other kind", x, 2, 5);
     }
 
     /** NONE: k is more than there are others. */

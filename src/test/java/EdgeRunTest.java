@@ -24,6 +24,8 @@ public final class EdgeRunTest {
         outLeavesWhenNoneIsLeft();
         outOfNoRowIsNotWaitedFor();
         minute199();
+        docksIn199();
+        putOnIn199();
         lateByTheDue();
         lateOfOneThatDoesNotLeave();
         weights();
@@ -241,6 +243,36 @@ public final class EdgeRunTest {
         checks.due("it stands there to the end", z.at(0, 199), 0);
     }
 
+    private static void docksIn199() {
+        // STAGING 1 and TRAVEL 9: off at 99, 108, .. 198, with which the first one leaves.
+        String text = "door in 0;door out 90;staging 1;in 99 12 0 0 0;in 99 1 0 0 0;out 0 0 199 40 1;change ";
+        DockTurns x = Checks.told(text + "0;");
+        checks.due("the first one leaves", x.truck(0, 9), 198);
+        checks.due("the next one docks in minute 199", x.truck(1, 8), 199);
+        checks.due("and stands there", x.at(0, 199), 1);
+        checks.due("for a minute", x.door(0, 3), 100 + 1);
+        DockTurns y = Checks.told(text + "1;");
+        checks.due("not in minute 200", y.truck(1, 8), NONE);
+        checks.due("none stands there", y.at(0, 199), NONE);
+        checks.due("for no minute", y.door(0, 3), 100);
+        checks.due("it does not leave", y.truck(1, 9), NONE);
+    }
+
+    private static void putOnIn199() {
+        // The one of the near DOOR waits till the far one has none left, and is a minute on its way then.
+        DockTurns x = Checks.told("door in 9;door in 89;door out 99;staging 1;in 99 11 0 0 0;in 99 1 0 0 0;out 0 0 199 40 1;");
+        checks.due("off", x.carton(11, 2), 198);
+        checks.due("on in minute 199", x.carton(11, 3), 199);
+        checks.due("with which the OUT one leaves", x.truck(2, 9), 199);
+        checks.due("not late", x.truck(2, 11), 0);
+        DockTurns y = Checks.told("door in 0;door in 89;door out 99;staging 1;in 99 10 0 0 0;in 99 1 0 0 0;out 0 0 199 40 1;");
+        checks.due("off", y.carton(10, 2), 199);
+        checks.due("not on in minute 200", y.carton(10, 3), NONE);
+        checks.due("so the OUT one does not leave", y.truck(2, 9), NONE);
+        checks.due("late by one", y.truck(2, 11), 1);
+        checks.due("ten are put on", y.count(7), 10);
+    }
+
     /** LATE: by how much it LEAVES behind DUE, 0 to 199. */
     private static void lateByTheDue() {
         for (int due = 0; due <= 199; due++) {
@@ -313,6 +345,11 @@ public final class EdgeRunTest {
         checks.due("at the end of a minute one, not two", y.count(11), 1);
         DockTurns z = Checks.told("door in 0;staging 1;in 99 1 0 0 0;");
         checks.due("from minute 99 on", z.count(12), 99);
+        DockTurns first = Checks.told("door in 0;door out 0;in 0 1 0 0 0;out 0 0 9 9 1;");
+        checks.due("in minute 0 alone", first.count(11), 1);
+        checks.due("in minute 0 alone", first.count(12), 0);
+        DockTurns last = Checks.told("door in 0;door out 99;staging 1;in 99 11 0 0 0;out 0 0 189 40 9;");
+        checks.due("to minute 199", last.staged(199, NONE), 1);
         DockTurns none = Checks.told("door in 0;staging 0;in 9 1 0 0 0;");
         checks.due("0 always", none.count(11), 0);
         checks.due("0 always", none.count(12), NONE);
@@ -339,6 +376,8 @@ public final class EdgeRunTest {
         checks.due("the whole run", Checks.told("door in 0;staging 0;in 0 1 0 0 0;").count(18), 200);
         checks.due("the last hundred and one minutes", Checks.told("door in 0;staging 0;in 99 1 0 0 0;").count(18), 101);
         checks.due("of an OUT one it does not tell", Checks.told("door out 0;door in 0;in 9 1 0 0 0;out 0 0 9 9 1;").count(18), 0);
+        checks.due("not of one that never docks", Checks.told("door in 0;staging 0;in 0 1 0 0 0;in 0 1 0 0 0;").count(18), 200);
+        checks.due("nor of one in no ROW", Checks.told("in 0 1 0 0 0;").count(18), 0);
         checks.due("but for the minute of the first", Checks.told("door in 0;staging 1;in 0 2 0 0 0;").count(18), 199);
     }
 
@@ -374,10 +413,14 @@ public final class EdgeRunTest {
         checks.due("two TRUCKS, with CHANGE between", Checks.told("door in 0;in 7 1 0 0 0;in 7 2 0 0 0;").door(0, 3), 3);
         checks.due("all minutes", Checks.told("door in 0;staging 0;in 0 1 0 0 0;").door(0, 3), 200);
         checks.due("from 99 on", Checks.told("door in 0;staging 0;in 99 1 0 0 0;").door(0, 3), 101);
+        checks.due("one that never docks", Checks.told("door in 0;staging 0;in 0 1 0 0 0;in 0 1 0 0 0;").door(0, 3), 200);
         DockTurns x = Checks.told("door in 0;door in 0;door out 0;in 0 3 0 0 0;out 0 0 9 9 1;");
         checks.due("OFF", x.door(0, 4), 3);
         checks.due("none OFF", x.door(1, 4), 0);
         checks.due("ON", x.door(2, 4), 3);
+        checks.due("three minutes", x.door(0, 3), 3);
+        checks.due("no minute, though others stand elsewhere", x.door(1, 3), 0);
+        checks.due("minutes 0 to 3", x.door(2, 3), 4);
     }
 
     /** The k-th TRUCK of a DOOR's ROW. NONE: there is none such (of either). */

@@ -176,11 +176,23 @@ public final class EdgeTextTest {
             checks.dueFault(words[i].toUpperCase() + behind[i], 1, 0);
             checks.dueFault(words[i] + words[i] + behind[i], 1, 0);
         }
+        everyLetterCounts(words, behind);
         checks.dueFault("door ins 5;", 1, 5);
         checks.dueFault("door outs 5;", 1, 5);
         checks.dueFault("door i 5;", 1, 5);
         checks.dueFault("door ou 5;", 1, 5);
         checks.dueRead("door in5;in0 1 0 0 0;out0 0 0 1 1;staging5;change5;", 2);
+    }
+
+    private static void everyLetterCounts(String[] words, String[] behind) {
+        for (int i = 0; i < words.length; i++) {
+            for (int at = 0; at < words[i].length(); at++) {
+                char other = words[i].charAt(at) == 'z' ? 'a' : (char) (words[i].charAt(at) + 1);
+                String word = words[i].substring(0, at) + other + words[i].substring(at + 1);
+                checks.dueFault(word + behind[i], 1, 0);
+                checks.dueFault("door " + word + " 5;", 1, 5);
+            }
+        }
     }
 
     private static final String[] EACH = {
@@ -432,16 +444,20 @@ public final class EdgeTextTest {
         checks.due("STAGING as at first", x.count(3), 10);
         checks.due("CHANGE as at first", x.count(4), 2);
         checks.due("NOW as at first", x.count(5), 0);
-        Whole.dueAlike(checks, "as a new object that was told", readTwice(), Checks.told("door in 3;in 2 0 1 0 0;"));
+        String[] texts = {"door in 3;in 2 0 1 0 0;out 0 0 0 1 1;", "door out 3;out 2 0 1 1 1;in 0 1 0 0 0;", "in 0 0 0 0 2;", ""};
+        for (String text : texts) {
+            Whole.dueAlike(checks, "as a new object that was told", readTwice("in 1 2 0 0 0;out 7 0 9 9 9;", text), Checks.told(text));
+            Whole.dueAlike(checks, "as a new object that was told", readTwice("out 7 0 9 9 9;in 1 2 0 0 0;", text), Checks.told(text));
+        }
     }
 
-    private static DockTurns readTwice() {
-        DockTurns x = Checks.told(SIX_DOORS + EIGHT_TRUCKS + "staging 3;change 4;");
+    private static DockTurns readTwice(String trucks, String text) {
+        DockTurns x = Checks.told(SIX_DOORS + trucks + "staging 3;change 4;");
         x.late(1, 5);
         x.now(9);
         Checks.typeAll(x, "oops");
         x.read();
-        Checks.typeAll(x, "door in 3;in 2 0 1 0 0;");
+        Checks.typeAll(x, text);
         x.read();
         return x;
     }

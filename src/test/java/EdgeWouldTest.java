@@ -294,11 +294,10 @@ public final class EdgeWouldTest {
 
     private static void dueAgain(String what, Consumer<DockTurns> between) {
         DockTurns x = kept();
-        DockTurns y = kept();
         between.accept(x);
         checks.due(what, x.again(1), true);
-        y.again(1);
-        Whole.dueAlike(checks, what, x, y);
+        checks.due("no ACTS " + what, x.count(16), 0);
+        Whole.dueAlikeButForActs(checks, what, x, kept());
     }
 
     /** All is as it was kept as k. */

@@ -7,21 +7,23 @@ final class Whole {
     private static final int MOST_CALLS = 450;
     private static final int[] MINUTES = {0, 1, 2, 5, 9, 199};
     private final DockTurns x;
+    private final boolean actsToo;
     private final StringBuilder told = new StringBuilder();
     private int calls;
 
-    private Whole(DockTurns x) {
+    private Whole(DockTurns x, boolean actsToo) {
         this.x = x;
+        this.actsToo = actsToo;
     }
 
     /** The object is used up by this: its acts are undone, its text is read, its images are called again. */
-    static String of(DockTurns x) {
-        Whole whole = new Whole(x);
+    private static String[] of(DockTurns x, boolean actsToo) {
+        Whole whole = new Whole(x, actsToo);
         whole.tell();
         if (whole.calls > MOST_CALLS) {
             throw new IllegalStateException("too many calls for one object: " + whole.calls);
         }
-        return whole.told.toString();
+        return whole.told.toString().split("\n");
     }
 
     /** Two objects made alike, of which one is called once more, answer alike. */
@@ -32,8 +34,14 @@ final class Whole {
     }
 
     static void dueAlike(Checks checks, String what, DockTurns one, DockTurns other) {
-        String[] got = of(one).split("\n");
-        String[] want = of(other).split("\n");
+        compare(checks, what, of(one, true), of(other, true));
+    }
+
+    static void dueAlikeButForActs(Checks checks, String what, DockTurns one, DockTurns other) {
+        compare(checks, what, of(one, false), of(other, false));
+    }
+
+    private static void compare(Checks checks, String what, String[] got, String[] want) {
         for (int i = 0; i < got.length && i < want.length; i++) {
             if (!got[i].equals(want[i])) {
                 checks.due(what + ": " + got[i] + " is not " + want[i], false, true);
@@ -59,10 +67,8 @@ final class Whole {
         tellTrucks();
         tellCartons();
         tellWhatWouldBe();
-        for (int left = 0; left != DockTurns.NONE;) {
-            left = x.undo();
-            line("undo()", left);
-            tellPlan();
+        if (actsToo) {
+            tellActs();
         }
         line("read()", x.read());
         tellCounts(6);
@@ -78,11 +84,21 @@ final class Whole {
         }
     }
 
+    private void tellActs() {
+        for (int left = 0; left != DockTurns.NONE;) {
+            left = x.undo();
+            line("undo()", left);
+            tellPlan();
+        }
+    }
+
     private void tellCounts(int last) {
         line("fault(false)", x.fault(false));
         line("fault(true)", x.fault(true));
         for (int what = 0; what <= last; what++) {
-            line("count(" + what + ")", x.count(what));
+            if (actsToo || what != 16) {
+                line("count(" + what + ")", x.count(what));
+            }
         }
     }
 
