@@ -30,6 +30,7 @@ public final class EdgeRunTest {
         lateOfOneThatDoesNotLeave();
         weights();
         aHundredForEachLeft();
+        countsOfThosePutOn();
         countsOfNothing();
         whatOfCounts();
         mostStagedIsTheFirstTime();
@@ -312,6 +313,21 @@ public final class EdgeRunTest {
             checks.due("in no ROW", Checks.told("in 0 0 " + load + " 0 0;").count(6), 100 * load);
         }
         checks.due("40", Checks.told("in 0 10 10 10 10;").count(6), 4000);
+    }
+
+    /** TRAVEL of CARTONS put on, minutes that they were STAGED: not of those that stand there, or are not taken off. */
+    private static void countsOfThosePutOn() {
+        DockTurns x = Checks.told("door in 0;door out 11;staging 1;in 3 1 1 1 0;out 0 0 4 9 3;");
+        checks.due("put on", x.count(7), 1);
+        checks.due("LATE times WEIGHT", x.count(8), 3);
+        checks.due("TRAVEL", x.count(9), 2);
+        checks.due("minutes", x.count(10), 2);
+        checks.due("COST", x.count(6), 3 + 2 + 2 + 200);
+        DockTurns y = Checks.told("door in 0;door out 99;staging 40;in 0 15 0 0 0;out 0 0 199 15 1;");
+        checks.due("all are put on", y.count(7), 15);
+        checks.due("TRAVEL", y.count(9), 150);
+        checks.due("minutes", y.count(10), 150);
+        checks.due("COST", y.count(6), 300);
     }
 
     private static void countsOfNothing() {

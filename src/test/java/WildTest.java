@@ -29,7 +29,7 @@ public final class WildTest {
 
     private static void runOnce() {
         DockTurns x = chance.nextInt(4) == 0 ? new DockTurns() : Checks.told(whole());
-        for (int call = 0; call < 512; call++) {
+        for (int call = 0; call < 400; call++) {
             int which = chance.nextInt(30);
             try {
                 int answer = answerOf(x, which);
