@@ -47,7 +47,8 @@ public final class CiRunTest {
     /** From a directory that is not the project's, as no place to stand is told for it. */
     private static Commands.Outcome run(Path root) throws IOException, InterruptedException {
         Path script = root.resolve("main/.ci/run");
-        return Commands.run(root, root.resolve("temporary"), script.toString());
+        // By sh, as a machine may forbid that files of the moment are run by themselves.
+        return Commands.run(root, root.resolve("temporary"), "sh", script.toString());
     }
 
     private static void dueRan(String when, Commands.Outcome outcome, String... names) {

@@ -4,6 +4,7 @@ import java.lang.reflect.Modifier;
 import java.nio.charset.StandardCharsets;
 import java.nio.file.Files;
 import java.nio.file.Path;
+import java.nio.file.attribute.PosixFilePermission;
 import java.util.ArrayList;
 import java.util.List;
 import java.util.Set;
@@ -109,7 +110,8 @@ public final class ReadmeTest {
 
     private static void runCommands(Path copy, String commands, String printed) throws IOException, InterruptedException {
         if (commands.trim().equals(WHOLE_RUN)) {
-            checks.due(WHOLE_RUN + " can be run", Files.isExecutable(Path.of(WHOLE_RUN)), true);
+            checks.due(WHOLE_RUN + " can be run",
+                Files.getPosixFilePermissions(Path.of(WHOLE_RUN)).contains(PosixFilePermission.OWNER_EXECUTE), true);
             return;
         }
         Commands.Outcome outcome = Commands.run(copy, null, "sh", "-e", "-c", commands);

@@ -6,6 +6,8 @@ final class Whole {
     // The document promises nothing behind an object's 512th call; a test's own calls come ahead of these.
     private static final int MOST_CALLS = 450;
     private static final int[] MINUTES = {0, 1, 2, 5, 9, 199};
+    // What is too much to be asked of one object is asked of several that were made alike, a part of each.
+    private static final int PARTS = 9;
     private final DockTurns x;
     private final boolean actsToo;
     private final StringBuilder told = new StringBuilder();
@@ -17,28 +19,30 @@ final class Whole {
     }
 
     /** The object is used up by this: its acts are undone, its text is read, its images are called again. */
-    private static String[] of(DockTurns x, boolean actsToo) {
+    private static String[] of(DockTurns x, boolean actsToo, int part) {
         Whole whole = new Whole(x, actsToo);
-        whole.tell();
+        whole.tellPart(part);
         if (whole.calls > MOST_CALLS) {
             throw new IllegalStateException("too many calls for one object: " + whole.calls);
         }
         return whole.told.toString().split("\n");
     }
 
-    /** Two objects made alike, of which one is called once more, answer alike. */
+    /** Two objects made alike, of which one is called once more, answer alike whatever they are asked. */
     static void dueUnchanged(Checks checks, String what, Supplier<DockTurns> made, Consumer<DockTurns> call) {
-        DockTurns called = made.get();
-        call.accept(called);
-        dueAlike(checks, what, called, made.get());
+        for (int part = 0; part < PARTS; part++) {
+            DockTurns called = made.get();
+            call.accept(called);
+            compare(checks, what, of(called, true, part), of(made.get(), true, part));
+        }
     }
 
     static void dueAlike(Checks checks, String what, DockTurns one, DockTurns other) {
-        compare(checks, what, of(one, true), of(other, true));
+        compare(checks, what, of(one, true, 0), of(other, true, 0));
     }
 
     static void dueAlikeButForActs(Checks checks, String what, DockTurns one, DockTurns other) {
-        compare(checks, what, of(one, false), of(other, false));
+        compare(checks, what, of(one, false, 0), of(other, false, 0));
     }
 
     private static void compare(Checks checks, String what, String[] got, String[] want) {
@@ -59,6 +63,61 @@ final class Whole {
     private int howMany(int what) {
         calls++;
         return x.count(what);
+    }
+
+    private void tellPart(int part) {
+        switch (part) {
+            case 0: tell(); break;
+            case 1: tellMinutesAt(0); tellMinutesAt(1); break;
+            case 2: tellMinutesAt(2); tellMinutesAt(3); break;
+            case 3: tellMinutesAt(4); tellMinutesAt(5); break;
+            case 4: tellMinutesStaged(DockTurns.NONE); tellMinutesStaged(0); break;
+            case 5: tellMinutesStaged(1); tellMinutesStaged(2); break;
+            case 6: tellMinutesStaged(3); tellRoomy(); break;
+            case 7: tellWould(); break;
+            case 8: tellDelayed(); break;
+            default: throw new IllegalStateException("no such part: " + part);
+        }
+    }
+
+    private void tellMinutesAt(int door) {
+        for (int minute = 0; minute < 200; minute++) {
+            line("at(" + door + ", " + minute + ")", x.at(door, minute));
+        }
+    }
+
+    private void tellMinutesStaged(int destination) {
+        for (int minute = 0; minute < 200; minute++) {
+            line("staged(" + minute + ", " + destination + ")", x.staged(minute, destination));
+        }
+    }
+
+    private void tellRoomy() {
+        for (int staging = 0; staging <= 40; staging++) {
+            line("roomy(" + staging + ")", x.roomy(staging));
+        }
+    }
+
+    private void tellWould() {
+        int doors = howMany(0);
+        int trucks = howMany(1);
+        for (int truck = 0; truck < trucks; truck++) {
+            for (int door = 0; door < doors; door++) {
+                for (int k = 0; k < trucks; k++) {
+                    line("would(" + truck + ", " + door + ", " + k + ")", x.would(truck, door, k));
+                }
+            }
+        }
+    }
+
+    /** Of eight trucks every second number only, lest the calls be too many. */
+    private void tellDelayed() {
+        int trucks = howMany(1);
+        for (int truck = 0; truck < trucks; truck++) {
+            for (int by = 1; by <= 99; by += trucks > 4 ? 2 : 1) {
+                line("delayed(" + truck + ", " + by + ")", x.delayed(truck, by));
+            }
+        }
     }
 
     private void tell() {
